@@ -3,18 +3,39 @@ import java.util.NoSuchElementException;
 /** Counts the answers of one test that are not as due, and ends the test with exit code 1 if there were any. */
 final class Check {
     private final String test;
+    private String words = "";
     private int wrong = 0;
     private int asked = 0;
+    private int askedBefore = 0;
 
     Check(String test) {
         this.test = test;
+    }
+
+    /** The answers that follow belong to these words of the document; a wrong one is told with them. */
+    void sentence(String next) {
+        closeSentence();
+        words = next;
+        askedBefore = asked;
+    }
+
+    /** A sentence under which nothing was asked is one without a test. */
+    private void closeSentence() {
+        if (!words.isEmpty() && asked == askedBefore) {
+            wrong++;
+            System.out.println(test + ": nothing was asked about: " + words);
+        }
+    }
+
+    private String place() {
+        return words.isEmpty() ? test + ": " : test + " (" + words + "): ";
     }
 
     void due(String call, long got, long want) {
         asked++;
         if (got != want) {
             wrong++;
-            System.out.println(test + ": " + call + " answered " + got + ", due is " + want);
+            System.out.println(place() + call + " answered " + got + ", due is " + want);
         }
     }
 
@@ -22,7 +43,7 @@ final class Check {
         asked++;
         if (!is) {
             wrong++;
-            System.out.println(test + ": does not hold: " + what);
+            System.out.println(place() + "does not hold: " + what);
         }
     }
 
@@ -55,6 +76,7 @@ final class Check {
     }
 
     void end() {
+        closeSentence();
         if (asked == 0 || wrong != 0) {
             System.out.println(test + ": " + wrong + " of " + asked + " answers are not as due");
             System.exit(1);
