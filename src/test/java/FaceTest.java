@@ -3,6 +3,7 @@ import java.lang.reflect.Field;
 import java.lang.reflect.Method;
 import java.lang.reflect.Modifier;
 import java.util.Arrays;
+import java.util.NoSuchElementException;
 import java.util.Set;
 import java.util.TreeSet;
 
@@ -50,6 +51,7 @@ public final class FaceTest {
         C.holds("the constructor's parameters",
                 Arrays.equals(all[0].getParameterTypes(), new Class<?>[] {int.class, int.class, int.class}));
         C.holds("the constructor is public", Modifier.isPublic(all[0].getModifiers()));
+        C.due("exceptions that the constructor declares", all[0].getExceptionTypes().length, 0);
     }
 
     private static void methods(Class<?> face) {
@@ -72,10 +74,16 @@ public final class FaceTest {
             got.add(signature(method));
             C.holds(method + " is public, of an object, and answers an int", method.getReturnType() == int.class
                     && Modifier.isPublic(method.getModifiers()) && !Modifier.isStatic(method.getModifiers()));
+            C.holds(method + " declares that it throws what the document says",
+                    Arrays.equals(method.getExceptionTypes(), declared(method.getName())));
         }
         C.holds("methods: " + got, got.equals(want));
         privateNames.retainAll(publicNames);
         C.holds("private methods with a public one's name: " + privateNames, privateNames.isEmpty());
+    }
+
+    private static Class<?>[] declared(String name) {
+        return name.equals("row") ? new Class<?>[] {NoSuchElementException.class} : new Class<?>[0];
     }
 
     private static String signature(Method method) {
